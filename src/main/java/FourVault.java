@@ -1,3 +1,4 @@
+/** A vault at four in the morning, told in a text; ../shared/DOC.md promises what each call answers. */
 public final class FourVault {
     public static final int UNKNOWN = -1, OUTSIDE = -2, STATE = -3, FULL = -4, NONE = -9;
     public static final long LOST = Long.MIN_VALUE;
@@ -480,7 +481,7 @@ public final class FourVault {
             return takersTelling(trace);
         }
 
-        // a WIDOW comes to this body past the SINGER's, which super can't do for it
+        // a body of its own, as a WIDOW comes to it past the SINGER's, which super can't do
         final int takersTelling(Trace trace) {
             trace.leave(1);
             return nerve;
@@ -635,7 +636,8 @@ public final class FourVault {
             int best = NONE;
             int most = -1;
             for (int b = 0; b < takerCount; b++) {
-                int held = b == taker.number ? -1 : heldByTwo(taker, takers[b], minute);
+                Taker other = takerAt(b);
+                int held = other == null || b == taker.number ? -1 : heldByTwo(taker, other, minute);
                 if (held > most) {
                     most = held;
                     best = b;
@@ -911,7 +913,8 @@ public final class FourVault {
                 mostFrom[last][taken] = 0;
             }
             for (int a = last - 1; a >= 0; a--) {
-                got[a] = vault.goodsGot(vault.takers[a], minute);
+                Taker taker = vault.takerAt(a);
+                got[a] = taker == null ? 0 : vault.goodsGot(taker, minute);
                 for (int taken = 0; taken < SETS; taken++) {
                     mostFrom[a][taken] = mostWith(vault, a, taken);
                 }

@@ -4,6 +4,7 @@ public final class GoodsTest {
         gets();
         send();
         sendNoneOrSeveral();
+        sendBehindALargerVault();
         sendRefusals();
         Check.end("GoodsTest");
     }
@@ -62,6 +63,15 @@ public final class GoodsTest {
         Check.due("by the minute", x.send(1, 0), none);
         FourVault y = Check.with("v2;t120;t080;t040;t990;t160/43211");
         sent(y, 0, 11, 1, 2, 3, 0, 4);
+    }
+
+    private static void sendBehindALargerVault() {
+        FourVault x = Check.with("v2;t990;t990;t990;t990;t990/99999");
+        sent(x, 0, 45, 0, 1, 2, 3, 4);
+        Check.due("a smaller vault", Check.vault(x, "v2;t990;t040/145"), 2);
+        sent(x, 0, 6, 2, 0);
+        Check.due("a vault of one", Check.vault(x, "v2;t040/11"), 1);
+        sent(x, 0, 1, 0);
     }
 
     private static void sendRefusals() {

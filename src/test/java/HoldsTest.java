@@ -6,6 +6,7 @@ public final class HoldsTest {
         together();
         friend();
         nightsTold();
+        nightBehindALongerOne();
         nightsWrong();
         nightRefusals();
         nightOrder();
@@ -120,6 +121,7 @@ public final class HoldsTest {
         night(x, 2, 42, 3, 2, 0, 20);
         night(x, 2, 7, 2, 7);
         night(x, 3, 0, 2, 7);
+        night(x, 3, 1, 0, 7);
         night(x, 3, 1, 0, 7, 1, 10);
         night(x, 3, 2, 0, 7, 1, 9);
         night(x, 3, 3, 0, 7, 1, 8, 2, 8, 3, 9);
@@ -135,6 +137,21 @@ public final class HoldsTest {
         night(y, 3, 1, most);
     }
 
+    private static void nightBehindALongerOne() {
+        FourVault x = even();
+        int[] longer = {0, 5, 1, 6, 3, 7};
+        int[] empty = {0, FourVault.NONE, FourVault.NONE, 0};
+        int[] shorter = {3, FourVault.NONE, 8, 1};
+        for (int what = 0; what < 4; what++) {
+            night(x, 0, 49, longer);
+            night(x, what, shorter[what], 0, 5);
+            night(x, 0, 49, longer);
+            night(x, what, empty[what]);
+        }
+        night(x, 11, 6, longer);
+        night(x, 11, 0, 0, 5);
+    }
+
     private static void nightsWrong() {
         FourVault x = even();
         int[][] nights = {
@@ -147,9 +164,10 @@ public final class HoldsTest {
         };
         int[] wrong = {1, 1, 1, 2, 3, 3};
         for (int k = 0; k < nights.length; k++) {
+            FourVault one = even();
             for (int what = 0; what <= 14; what++) {
                 if (what < 4 || what >= 10) {
-                    night(x, what, what == 1 ? wrong[k] : -100 - wrong[k], nights[k]);
+                    night(one, what, what == 1 ? wrong[k] : -100 - wrong[k], nights[k]);
                 }
             }
         }

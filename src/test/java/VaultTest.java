@@ -220,13 +220,15 @@ public final class VaultTest {
     }
 
     private static void drains() {
-        FourVault x = Check.with("v0159;t990;s990;w990;t993;s993/");
+        String text = "v0159;t990;s990;w990;t993;s993/";
         int[][] due = {{0, 1, 5, 9}, {0, 0, 4, 8}, {0, 0, 2, 4}, {3, 4, 8, 12}, {2, 3, 7, 11}};
         for (int a = 0; a < due.length; a++) {
+            FourVault x = Check.with(text);
             for (int m = 0; m < 100; m++) {
                 Check.due("drain " + a + " " + m, x.drain(a, m), due[a][m % 4]);
             }
         }
+        FourVault x = Check.with(text);
         x.think(2, 4);
         Check.due("a widow's half is of gloom and mind together", x.drain(2, 1), 2);
         Check.due("not less one first", x.drain(2, 0), 2);
