@@ -287,7 +287,7 @@ public final class FourVault {
         int upper = kept.setsHeld(taker, n);
         int lower = 1 << kept.places;
         // lower is a power of two, so least terms need no other divisor than 2
-        while (lower > 1 && upper % 2 == 0) {
+        for (int k = 0; k < kept.places && upper % 2 == 0; k++) {
             upper /= 2;
             lower /= 2;
         }

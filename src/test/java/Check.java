@@ -3,23 +3,43 @@ final class Check {
     static final long LOST = Long.MIN_VALUE;
     /** Four PLACES; a TAKER, a SINGER, a WIDOW, one of much nerve, one of none; four GOODS. */
     static final String GANG = "v3052;t254;s181;w302;t990;s000/1369";
+    private static int sentences = 0;
     private static int answers = 0;
     private static int wrong = 0;
+    private static String sentence = "";
 
     private Check() {
     }
 
+    /** What follows tests this sentence of the document. */
+    static void sentence(String told) {
+        sentences++;
+        sentence = "[" + told + "] ";
+    }
+
     static void due(String call, long got, long want) {
-        answers++;
         if (got != want) {
-            wrong++;
-            System.out.println(call + " answered " + got + ", due is " + want);
+            System.out.println(sentence + call + " answered " + got + ", due is " + want);
         }
+        count(got == want);
+    }
+
+    static void same(String what, String got, String want) {
+        if (!got.equals(want)) {
+            System.out.println(sentence + what + ": '" + got + "', due is '" + want + "'");
+        }
+        count(got.equals(want));
+    }
+
+    private static void count(boolean right) {
+        answers++;
+        wrong += right ? 0 : 1;
     }
 
     /** Ends the test: exit code 1 if an answer was wrong, or if nothing was asked. */
     static void end(String test) {
-        System.out.println(test + ": " + answers + " answers, " + wrong + " wrong");
+        String of = sentences == 0 ? "" : sentences + " sentences, ";
+        System.out.println(test + ": " + of + answers + " answers, " + wrong + " wrong");
         if (wrong != 0 || answers == 0) {
             System.exit(1);
         }
