@@ -50,7 +50,7 @@ public final class FourVault {
         if (firstFault != NONE) {
             return -100 - firstFault;
         }
-        kept = reader.swap(kept);
+        kept = reader.handOver(kept);
         readings.count = 0;
         return kept.takerCount;
     }
@@ -686,6 +686,9 @@ public final class FourVault {
         static final int DUE_ONES = 5, DUE_MIND = 6, DUE_TAKER = 7, DUE_GOOD = 8;
 
         Vault draft = new Vault();
+        final int[] kindsRead = new int[MOST_TAKERS];
+        final int[] nervesRead = new int[MOST_TAKERS];
+        final int[] mindsRead = new int[MOST_TAKERS];
         int due = DUE_V;
         int kind = 0;
         int nerve = 0;
@@ -702,8 +705,12 @@ public final class FourVault {
             return due == DUE_GOOD ? NONE : n;
         }
 
-        Vault swap(Vault old) {
+        /** The vault that was read, for the old one; its takers are made only here, as a wrong TEXT needs none. */
+        Vault handOver(Vault old) {
             Vault read = draft;
+            for (int a = 0; a < read.takerCount; a++) {
+                read.takers[a] = newTaker(kindsRead[a], a, nervesRead[a], mindsRead[a]);
+            }
             draft = old;
             return read;
         }
@@ -763,7 +770,9 @@ public final class FourVault {
                 return false;
             }
             int number = draft.takerCount;
-            draft.takers[number] = newTaker(kind, number, nerve, code - '0');
+            kindsRead[number] = kind;
+            nervesRead[number] = nerve;
+            mindsRead[number] = code - '0';
             draft.takerCount++;
             return goesOn(true, DUE_TAKER);
         }
